@@ -1,4 +1,5 @@
 import java.util.ArrayList;
+import java.util.Arrays;
 import java.util.List;
 
 /** For each promise of ../shared/DOC.md: ordinary inputs, the edges that the document names, and wrong inputs. */
@@ -33,6 +34,7 @@ public final class PromiseTests {
         undo();
         undoOfEachMethod();
         rope();
+        eachWindow();
         reasons();
         section();
         window();
@@ -182,6 +184,7 @@ public final class PromiseTests {
         x.trip(0, 1, 6);
         x.pass(1);
         x.inspect(2, 0, 3);
+        x.inspect(2, 0, 3);
         leaveRoom(x);
         long before = x.digest();
         due("cut(1)", x.cut(1), 2);
@@ -203,6 +206,7 @@ public final class PromiseTests {
         }
         due("hang(50) behind cuts", x.hang(50), 0);
         due("the bends of a new rope behind cuts", x.section(0, 5, 0), 0);
+        due("the count ahead of a new rope behind cuts", x.section(0, 3, 3), 0);
         due("the trips of a new rope behind cuts", x.rope(0, 9), 0);
         due("the month of a new rope behind cuts", x.rope(0, 1), 1);
         due("trips so far stay", x.count(4), 6);
@@ -232,8 +236,16 @@ public final class PromiseTests {
         x.undo();
         due("digest after undo", x.digest(), before);
         due("swap(1, 1)", x.swap(1, 1), 6 * 2);
+        x.inspect(0, 0, 23);
+        due("the count ahead of the old one", x.section(0, 4, 3), 3);
+        due("swap(0, 5)", x.swap(0, 5), 6 * 3);
+        for (int section = 0; section < 24; section++) {
+            for (int what = 0; what < 4; what++) {
+                due("section " + section + " of the new one", x.section(0, section, what), 0);
+            }
+        }
         due("swap(1, 1) again", x.swap(1, 1), 0);
-        due("swaps so far", x.count(6), 2);
+        due("swaps so far", x.count(6), 3);
         for (int quality : new int[] {0, 100, Integer.MIN_VALUE, Integer.MAX_VALUE}) {
             refused(x, "swap(0, " + quality + ")", ARGUMENT, () -> x.swap(0, quality));
             refused(x, "swap(2, " + quality + ")", INDEX, () -> x.swap(2, quality));
@@ -631,8 +643,13 @@ public final class PromiseTests {
         dueUndone(x, "trip", () -> x.trip(6, 1, 77));
         dueUndone(x, "pass", () -> x.pass(5));
         type(x, "0-1*5;2-3");
-        due("run()", x.run() > 0 ? 1 : 0, 1);
-        x.undo();
+        due("saved states ahead of run()", x.count(8), 3);
+        long before = stateHash(x);
+        int trips = x.count(4);
+        due("run()", x.run(), trips + 6);
+        due("saved states after run()", x.count(8), 4);
+        due("undo() of run()", x.undo(), 3);
+        due("the state after undo() of run()", stateHash(x), before);
         dueUndone(x, "inspect that changes nothing", () -> x.inspect(1, 23, 23));
         List<Call> calls = new ArrayList<>();
         calls.add(() -> x.trip(1, 2, 3));
@@ -661,6 +678,10 @@ public final class PromiseTests {
         due("saved states after " + name, x.count(8), saved + 1);
         due("undo() of " + name, x.undo(), saved);
         due("digest after undo() of " + name, x.digest(), before);
+    }
+
+    private static long stateHash(RopeThreads x) {
+        return Arrays.hashCode(stateOf(x));
     }
 
     private static long[] stateOf(RopeThreads x) {
@@ -731,6 +752,41 @@ public final class PromiseTests {
         }
         for (int rope : OUTSIDE) {
             refused(x, "rope(" + rope + ", 0)", INDEX, () -> x.rope(rope, 0));
+        }
+    }
+
+    private static void eachWindow() {
+        promise = "14 rope, each window";
+        RopeThreads x = loose(1);
+        x.hang(1);
+        x.trip(0, 7, 2);
+        for (int section = 0; section < 24; section++) {
+            x.inspect(0, section, section);
+            due("reason with one section", x.rope(0, 7), 0);
+            x.set(3, 2);
+            due("reason 3 by one section", x.rope(0, 7), 3);
+            x.set(3, 99);
+            for (int size = 1; size <= 12; size++) {
+                x.set(0, size);
+                due("the window with section " + section, x.rope(0, 5), Math.max(0, section - size + 1));
+                due("its sum", x.rope(0, 4), 2);
+                x.set(1, 2);
+                due("reason 1 by one section", x.rope(0, 7), 1);
+                x.set(1, 99);
+            }
+            x.swap(0, 1);
+            x.cut(1);
+            x.hang(1);
+            x.trip(0, 7, 2);
+        }
+        for (int floor = 0; floor < 8; floor++) {
+            RopeThreads y = loose(2, 2);
+            y.trip(floor, floor, 4);
+            due("broken threads by one floor", y.rope(0, 3), 6);
+            for (int size = 1; size <= 12; size++) {
+                y.set(0, size);
+                due("the greatest true sum by one floor", y.rope(0, 6), 2 * Math.min(3, size));
+            }
         }
     }
 
@@ -950,6 +1006,20 @@ public final class PromiseTests {
         due("best of 1 of the other rope", x.bestInspection(1, 1), 15);
         x.inspect(0, 9, 13);
         due("best of 1 at last", x.bestInspection(0, 1), 14);
+        for (int section = 0; section < 24; section++) {
+            RopeThreads y = loose(2, 2);
+            y.trip(0, 7, 2);
+            if (section > 0) {
+                y.inspect(0, 0, section - 1);
+            }
+            if (section < 23) {
+                y.inspect(0, section + 1, 23);
+            }
+            for (int many = 1; many <= 24; many++) {
+                due("best of " + many + " with section " + section, y.bestInspection(0, many),
+                    Math.max(0, section - many + 1));
+            }
+        }
         for (int many : new int[] {0, 25, -1, Integer.MIN_VALUE, Integer.MAX_VALUE}) {
             refused(x, "bestInspection(0, " + many + ")", ARGUMENT, () -> x.bestInspection(0, many));
             refused(x, "bestInspection(2, " + many + ")", INDEX, () -> x.bestInspection(2, many));
@@ -998,6 +1068,16 @@ public final class PromiseTests {
         due("a window with two threads in a section", z.tripsLeft(0), 14);
         z.inspect(0, 0, 23);
         due("an inspection does not matter", z.tripsLeft(0), 14);
+        for (int floor = 0; floor < 8; floor++) {
+            RopeThreads w = withRopes(10, 10);
+            w.trip(floor, floor, 15);
+            w.set(0, 1);
+            w.set(1, 2);
+            due("the floor " + floor + " is worn most", w.tripsLeft(0), 5);
+            w.set(0, 3);
+            w.set(1, 6);
+            due("the floor " + floor + " in windows of three", w.tripsLeft(0), 5);
+        }
         for (int rope : new int[] {2, 5, -1, Integer.MIN_VALUE, Integer.MAX_VALUE}) {
             refused(z, "tripsLeft(" + rope + ")", INDEX, () -> z.tripsLeft(rope));
         }
@@ -1019,6 +1099,15 @@ public final class PromiseTests {
         due("rope 1 is to be retired", x.unseen(), 2);
         x.inspect(2, 0, 23);
         due("both are to be retired", x.unseen(), -1);
+        for (int floor = 0; floor < 8; floor++) {
+            RopeThreads z = withRopes(99, 1);
+            z.set(0, 3);
+            z.set(1, 9);
+            z.trip(floor, floor, 3);
+            due("all three sections of the floor " + floor, z.unseen(), 1);
+            due("the same as ifInspected", z.ifInspected(1, 0, 23), 1);
+            dueDigest(z, "");
+        }
         RopeThreads y = withRopes(1, 1);
         y.set(1, 99);
         y.trip(0, 6, 1);
@@ -1096,6 +1185,15 @@ public final class PromiseTests {
         x.clearBuffer();
         x.undo();
         dueDigest(x, "");
+        for (int floor = 0; floor < 8; floor += 7) {
+            RopeThreads z = withRopes(1, 1);
+            z.set(0, 3);
+            z.set(1, 9);
+            z.trip(floor, floor, 3);
+            dueDigest(z, "");
+            z.pass(4);
+            dueDigest(z, "");
+        }
         RopeThreads y = loose(1, 2, 3, 4, 5);
         y.trip(0, 7, 20);
         for (int i = 0; i < 24; i++) {
