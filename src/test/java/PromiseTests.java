@@ -779,6 +779,14 @@ public final class PromiseTests {
             x.hang(1);
             x.trip(0, 7, 2);
         }
+        due("the greatest true sum without wear", loose(2).rope(0, 6), 0);
+        RopeThreads first = loose(1, 1);
+        first.trip(0, 0, 3);
+        first.trip(4, 4, 2);
+        first.inspect(0, 0, 0);
+        first.inspect(0, 13, 13);
+        due("section 0 has more than section 13", first.rope(0, 5), 0);
+        due("its count", first.rope(0, 4), 3);
         for (int floor = 0; floor < 8; floor++) {
             RopeThreads y = loose(2, 2);
             y.trip(floor, floor, 4);
@@ -1006,6 +1014,12 @@ public final class PromiseTests {
         due("best of 1 of the other rope", x.bestInspection(1, 1), 15);
         x.inspect(0, 9, 13);
         due("best of 1 at last", x.bestInspection(0, 1), 14);
+        RopeThreads first = loose(1, 1);
+        first.trip(0, 0, 3);
+        first.trip(4, 4, 2);
+        first.inspect(0, 1, 12);
+        due("best of 1 where section 0 has more than section 13", first.bestInspection(0, 1), 0);
+        due("best of 2 where section 13 and 14 have more than section 0", first.bestInspection(0, 2), 13);
         for (int section = 0; section < 24; section++) {
             RopeThreads y = loose(2, 2);
             y.trip(0, 7, 2);
