@@ -482,22 +482,22 @@ public final class RopeThreads {
             return sumOfBroken(0, SECTIONS - 1);
         }
 
-        int windowOfGreatestCounts(int size) {
-            int best = 0;
-            int greatest = sumOfCounts(0, size - 1);
-            for (int first = 1; first + size <= SECTIONS; first++) {
-                int sum = sumOfCounts(first, first + size - 1);
-                if (sum > greatest) {
-                    greatest = sum;
-                    best = first;
-                }
+        int greatestCounts(int size) {
+            int greatest = 0;
+            for (int first = 0; first + size <= SECTIONS; first++) {
+                greatest = Math.max(greatest, sumOfCounts(first, first + size - 1));
             }
-            return best;
+            return greatest;
         }
 
-        int greatestCounts(int size) {
-            int window = windowOfGreatestCounts(size);
-            return sumOfCounts(window, window + size - 1);
+        int windowOfGreatestCounts(int size) {
+            int greatest = greatestCounts(size);
+            for (int first = 0; first + size <= SECTIONS; first++) {
+                if (sumOfCounts(first, first + size - 1) == greatest) {
+                    return first;
+                }
+            }
+            return 0;
         }
 
         int greatestBroken(int size) {

@@ -3,18 +3,8 @@ import java.util.Arrays;
 import java.util.List;
 
 /** For each promise of ../shared/DOC.md: ordinary inputs, the edges that the document names, and wrong inputs. */
-public final class PromiseTests {
-    private static final Class<IndexOutOfBoundsException> INDEX = IndexOutOfBoundsException.class;
-    private static final Class<IllegalArgumentException> ARGUMENT = IllegalArgumentException.class;
-    private static final Class<IllegalStateException> STATE = IllegalStateException.class;
+public final class PromiseTests extends Checks {
     private static final int[] OUTSIDE = {Integer.MIN_VALUE, -1, Integer.MAX_VALUE};
-
-    private static String promise = "";
-    private static int wrong = 0;
-
-    private interface Call {
-        long answer();
-    }
 
     public static void main(String[] args) {
         newObject();
@@ -46,90 +36,13 @@ public final class PromiseTests {
         unseen();
         countedShare();
         digest();
-        System.out.println(wrong == 0 ? "every promise holds" : wrong + " answers are not as due");
-        if (wrong != 0) {
-            System.exit(1);
-        }
-    }
-
-    // ---- what the tests are made of
-
-    private static void due(String call, long got, long want) {
-        if (got != want) {
-            fault(call + " answered " + got + ", due is " + want);
-        }
-    }
-
-    private static void fault(String text) {
-        wrong++;
-        System.out.println(promise + ": " + text);
-    }
-
-    /** The call throws just this exception, and changes nothing. */
-    private static void refused(RopeThreads x, String call, Class<? extends RuntimeException> want, Call it) {
-        long before = x.digest();
-        String got = "nothing";
-        try {
-            it.answer();
-        } catch (RuntimeException e) {
-            got = e.getClass().getName();
-        }
-        if (!got.equals(want.getName())) {
-            fault(call + " threw " + got + ", due is " + want.getName());
-        }
-        due("digest after " + call + " was refused", x.digest(), before);
-    }
-
-    /** The call changes nothing. */
-    private static void quiet(RopeThreads x, String call, long want, Call it) {
-        long before = x.digest();
-        due(call, it.answer(), want);
-        due("digest after " + call, x.digest(), before);
-    }
-
-    private static RopeThreads withRopes(int... qualities) {
-        RopeThreads x = new RopeThreads();
-        for (int quality : qualities) {
-            x.hang(quality);
-        }
-        return x;
-    }
-
-    /** No rule retires a rope soon. */
-    private static RopeThreads loose(int... qualities) {
-        RopeThreads x = withRopes(qualities);
-        x.set(1, 99);
-        x.set(2, 999);
-        x.set(3, 99);
-        x.set(4, 60);
-        return x;
-    }
-
-    /** Leaves the elevator with five saved states at most: one more call and its undo bring count(8) back. */
-    private static void leaveRoom(RopeThreads x) {
-        x.set(0, x.setting(0));
-        x.undo();
-    }
-
-    private static void type(RopeThreads x, String text) {
-        x.clearBuffer();
-        for (int i = 0; i < text.length(); i++) {
-            x.append(text.charAt(i));
-        }
-    }
-
-    private static String repeated(String part, int times) {
-        StringBuilder text = new StringBuilder();
-        for (int i = 0; i < times; i++) {
-            text.append(part);
-        }
-        return text.toString();
+        finish("every promise holds");
     }
 
     // ---- promise 1
 
     private static void newObject() {
-        promise = "1 a new object";
+        about("1 a new object");
         due("NONE", RopeThreads.NONE, -1);
         RopeThreads x = new RopeThreads();
         for (int what = 0; what <= 8; what++) {
@@ -153,7 +66,7 @@ public final class PromiseTests {
     // ---- promise 2
 
     private static void hang() {
-        promise = "2 hang";
+        about("2 hang");
         RopeThreads x = new RopeThreads();
         for (int wrongOne : new int[] {0, 100, -1, Integer.MIN_VALUE, Integer.MAX_VALUE}) {
             refused(x, "hang(" + wrongOne + ")", ARGUMENT, () -> x.hang(wrongOne));
@@ -179,7 +92,7 @@ public final class PromiseTests {
     // ---- promise 3
 
     private static void cut() {
-        promise = "3 cut";
+        about("3 cut");
         RopeThreads x = loose(1, 2, 3);
         x.trip(0, 1, 6);
         x.pass(1);
@@ -215,7 +128,7 @@ public final class PromiseTests {
     // ---- promise 4
 
     private static void swap() {
-        promise = "4 swap";
+        about("4 swap");
         RopeThreads x = loose(2, 3);
         x.trip(1, 2, 7);
         x.pass(4);
@@ -258,7 +171,7 @@ public final class PromiseTests {
     // ---- promise 5
 
     private static void inspect() {
-        promise = "5 inspect";
+        about("5 inspect");
         RopeThreads x = loose(3, 3);
         x.trip(0, 7, 7);
         x.pass(2);
@@ -299,7 +212,7 @@ public final class PromiseTests {
     // ---- promise 6
 
     private static void set() {
-        promise = "6 set";
+        about("6 set");
         int[] most = {12, 99, 999, 99, 60};
         int[] first = {4, 8, 20, 5, 3};
         for (int i = 0; i < 5; i++) {
@@ -332,7 +245,7 @@ public final class PromiseTests {
     // ---- promise 7
 
     private static void trip() {
-        promise = "7 trip";
+        about("7 trip");
         RopeThreads x = loose(1, 99);
         due("trip(2, 4, 5)", x.trip(2, 4, 5), 5);
         dueBends(x, 0, 6, 14, 5);
@@ -377,7 +290,7 @@ public final class PromiseTests {
     }
 
     private static void tripsAllowed() {
-        promise = "7 trip, whether it may";
+        about("7 trip, whether it may");
         RopeThreads x = new RopeThreads();
         refused(x, "trip without ropes", STATE, () -> x.trip(0, 1, 1));
         refused(x, "trip to floor 8 without ropes", INDEX, () -> x.trip(0, 8, 1));
@@ -414,7 +327,7 @@ public final class PromiseTests {
     // ---- promise 8
 
     private static void pass() {
-        promise = "8 pass";
+        about("8 pass");
         RopeThreads x = new RopeThreads();
         due("pass(1) without ropes", x.pass(1), 0);
         x.hang(5);
@@ -446,7 +359,7 @@ public final class PromiseTests {
     // ---- promise 9
 
     private static void append() {
-        promise = "9 append";
+        about("9 append");
         RopeThreads x = new RopeThreads();
         for (int code : new int[] {32, 127, 0, -1, Integer.MIN_VALUE, Integer.MAX_VALUE}) {
             refused(x, "append(" + code + ")", ARGUMENT, () -> x.append(code));
@@ -469,7 +382,7 @@ public final class PromiseTests {
     // ---- promise 10
 
     private static void clearBuffer() {
-        promise = "10 clearBuffer";
+        about("10 clearBuffer");
         RopeThreads x = new RopeThreads();
         due("clearBuffer() of an empty one", x.clearBuffer(), 0);
         x.hang(5);
@@ -486,7 +399,7 @@ public final class PromiseTests {
     // ---- promise 11
 
     private static void firstError() {
-        promise = "11 firstError";
+        about("11 firstError");
         String[] good = {"", "0", "0-", "0-7", "7-0*", "0-7*1", "0-7*10", "0-7*19", "0-7*2", "0-7*9", "0-7*20",
             "0-7*99", "3-3", "0-7;", "0-7*5;", "0-7*55;", "0-7;1", "0-7;1-2*33;4-4",
             repeated("0-0*99;", 8) + "0-0*", repeated("0-0;", 15)};
@@ -541,7 +454,7 @@ public final class PromiseTests {
     // ---- promise 12
 
     private static void run() {
-        promise = "12 run";
+        about("12 run");
         RopeThreads x = loose(1, 2);
         type(x, "3-1*12;7-7;0-0*2;2-2*99");
         long before = x.count(8);
@@ -569,7 +482,7 @@ public final class PromiseTests {
     }
 
     private static void runRefused() {
-        promise = "12 run, refused";
+        about("12 run, refused");
         RopeThreads x = loose(5, 5);
         refused(x, "run() of nothing", ARGUMENT, x::run);
         for (String text : new String[] {"0", "0-", "0-7*", "0-7*1", "0-7;", "0-7*5;", "8-1", "0-7*0", "0-7*100",
@@ -596,7 +509,7 @@ public final class PromiseTests {
     // ---- promise 13
 
     private static void undo() {
-        promise = "13 undo";
+        about("13 undo");
         RopeThreads x = new RopeThreads();
         long[] digests = new long[10];
         for (int i = 0; i < 8; i++) {
@@ -626,7 +539,7 @@ public final class PromiseTests {
     }
 
     private static void undoOfEachMethod() {
-        promise = "13 undo of each method";
+        about("13 undo of each method");
         RopeThreads x = loose(1, 2);
         x.trip(0, 3, 40);
         x.pass(2);
@@ -671,15 +584,6 @@ public final class PromiseTests {
         }
     }
 
-    private static void dueUndone(RopeThreads x, String name, Call call) {
-        long before = x.digest();
-        int saved = x.count(8);
-        call.answer();
-        due("saved states after " + name, x.count(8), saved + 1);
-        due("undo() of " + name, x.undo(), saved);
-        due("digest after undo() of " + name, x.digest(), before);
-    }
-
     private static long stateHash(RopeThreads x) {
         return Arrays.hashCode(stateOf(x));
     }
@@ -705,7 +609,7 @@ public final class PromiseTests {
     // ---- promise 14
 
     private static void rope() {
-        promise = "14 rope";
+        about("14 rope");
         RopeThreads x = new RopeThreads();
         x.pass(3);
         x.hang(4);
@@ -756,7 +660,7 @@ public final class PromiseTests {
     }
 
     private static void eachWindow() {
-        promise = "14 rope, each window";
+        about("14 rope, each window");
         RopeThreads x = loose(1);
         x.hang(1);
         x.trip(0, 7, 2);
@@ -799,7 +703,7 @@ public final class PromiseTests {
     }
 
     private static void reasons() {
-        promise = "14 rope, its reason";
+        about("14 rope, its reason");
         RopeThreads x = loose(1, 1);
         x.trip(0, 0, 3);
         x.trip(7, 7, 2);
@@ -845,7 +749,7 @@ public final class PromiseTests {
     // ---- promise 15
 
     private static void section() {
-        promise = "15 section";
+        about("15 section");
         RopeThreads x = loose(3, 5);
         x.trip(1, 1, 11);
         x.pass(2);
@@ -877,7 +781,7 @@ public final class PromiseTests {
     // ---- promise 16
 
     private static void window() {
-        promise = "16 window";
+        about("16 window");
         RopeThreads x = loose(2, 2);
         x.trip(2, 2, 6);
         x.inspect(0, 7, 7);
@@ -908,7 +812,7 @@ public final class PromiseTests {
     // ---- promise 17
 
     private static void count() {
-        promise = "17 count";
+        about("17 count");
         RopeThreads x = withRopes(1, 2, 3);
         x.trip(0, 1, 12);
         x.inspect(1, 2, 3);
@@ -941,7 +845,7 @@ public final class PromiseTests {
     // ---- promise 18
 
     private static void setting() {
-        promise = "18 setting";
+        about("18 setting");
         RopeThreads x = new RopeThreads();
         for (int i = 0; i < 5; i++) {
             x.set(i, i + 7);
@@ -958,7 +862,7 @@ public final class PromiseTests {
     // ---- promise 19
 
     private static void ifInspected() {
-        promise = "19 ifInspected";
+        about("19 ifInspected");
         RopeThreads x = withRopes(1, 1);
         x.trip(3, 3, 4);
         quiet(x, "one section", 0, () -> x.ifInspected(0, 9, 9));
@@ -993,7 +897,7 @@ public final class PromiseTests {
     // ---- promise 20
 
     private static void bestInspection() {
-        promise = "20 bestInspection";
+        about("20 bestInspection");
         RopeThreads x = loose(1, 1);
         for (int many = 1; many <= 24; many++) {
             int so = many;
@@ -1046,7 +950,7 @@ public final class PromiseTests {
     // ---- promise 21
 
     private static void tripsLeft() {
-        promise = "21 tripsLeft";
+        about("21 tripsLeft");
         RopeThreads x = withRopes(10, 99);
         quiet(x, "a new rope", 20, () -> x.tripsLeft(0));
         quiet(x, "a new rope of the best quality", 198, () -> x.tripsLeft(1));
@@ -1100,7 +1004,7 @@ public final class PromiseTests {
     // ---- promise 22
 
     private static void unseen() {
-        promise = "22 unseen";
+        about("22 unseen");
         RopeThreads x = withRopes(99, 5, 4);
         quiet(x, "new ropes", -1, x::unseen);
         x.trip(0, 0, 14);
@@ -1142,7 +1046,7 @@ public final class PromiseTests {
     // ---- promise 23
 
     private static void countedShare() {
-        promise = "23 countedShare";
+        about("23 countedShare");
         RopeThreads x = new RopeThreads();
         dueShare(x, 1.0);
         x.hang(3);
@@ -1171,13 +1075,13 @@ public final class PromiseTests {
         long before = x.digest();
         due("the bits of countedShare()", Double.doubleToLongBits(x.countedShare()), Double.doubleToLongBits(want));
         due("digest after countedShare()", x.digest(), before);
-        due("digest with that share", x.digest(), digestOf(x, ""));
+        dueDigest(x, "");
     }
 
     // ---- promise 24
 
     private static void digest() {
-        promise = "24 digest";
+        about("24 digest");
         RopeThreads x = new RopeThreads();
         dueDigest(x, "");
         type(x, "~!0");
@@ -1218,44 +1122,5 @@ public final class PromiseTests {
             y.pass(1);
             dueDigest(y, "");
         }
-    }
-
-    private static void dueDigest(RopeThreads x, String buffer) {
-        due("digest()", x.digest(), digestOf(x, buffer));
-        due("digest() again", x.digest(), digestOf(x, buffer));
-    }
-
-    private static long digestOf(RopeThreads x, String buffer) {
-        long hash = 2677;
-        for (int what = 0; what <= 8; what++) {
-            hash = 31 * hash + x.count(what);
-        }
-        for (int setting = 0; setting <= 4; setting++) {
-            hash = 31 * hash + x.setting(setting);
-        }
-        for (int rope = 0; rope < x.count(1); rope++) {
-            for (int what = 0; what <= 9; what++) {
-                hash = 31 * hash + x.rope(rope, what);
-            }
-            for (int section = 0; section <= 23; section++) {
-                for (int what = 0; what <= 4; what++) {
-                    hash = 31 * hash + x.section(rope, section, what);
-                }
-            }
-            for (int window = 0; window + x.setting(0) <= 24; window++) {
-                hash = 31 * hash + x.window(rope, window, 0);
-                hash = 31 * hash + x.window(rope, window, 1);
-            }
-            hash = 31 * hash + x.ifInspected(rope, 0, 23);
-            hash = 31 * hash + x.bestInspection(rope, 5);
-            hash = 31 * hash + x.tripsLeft(rope);
-        }
-        hash = 31 * hash + x.unseen();
-        hash = 31 * hash + Double.doubleToLongBits(x.countedShare());
-        hash = 31 * hash + buffer.length();
-        for (int i = 0; i < buffer.length(); i++) {
-            hash = 31 * hash + buffer.charAt(i);
-        }
-        return hash;
     }
 }
