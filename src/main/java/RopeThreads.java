@@ -437,14 +437,14 @@ public final class RopeThreads {
         }
 
         void bend(int from, int to, int times) {
-            for (int i = Math.max(from, 0); i <= to && i < SECTIONS; i++) {
+            for (int i = from; i >= 0 && i <= to && i < SECTIONS; i++) {
                 bends[i] += times;
             }
             trips += times;
         }
 
         void lookAt(int from, int to, int month) {
-            for (int i = Math.max(from, 0); i <= to && i < SECTIONS; i++) {
+            for (int i = from; i >= 0 && i <= to && i < SECTIONS; i++) {
                 countsAhead[i] = counts[i];
                 counts[i] = broken(i);
                 lookMonths[i] = month;
@@ -460,7 +460,7 @@ public final class RopeThreads {
 
         int sumOfCounts(int from, int to) {
             int sum = 0;
-            for (int i = Math.max(from, 0); i <= to && i < SECTIONS; i++) {
+            for (int i = from; i >= 0 && i <= to && i < SECTIONS; i++) {
                 sum += counts[i];
             }
             return sum;
@@ -468,7 +468,7 @@ public final class RopeThreads {
 
         int sumOfBroken(int from, int to) {
             int sum = 0;
-            for (int i = Math.max(from, 0); i <= to && i < SECTIONS; i++) {
+            for (int i = from; i >= 0 && i <= to && i < SECTIONS; i++) {
                 sum += broken(i);
             }
             return sum;

@@ -9,7 +9,9 @@ import java.nio.file.Files;
 import java.nio.file.Path;
 import java.util.ArrayList;
 import java.util.List;
+import java.util.Map;
 import java.util.Set;
+import java.util.TreeMap;
 import java.util.TreeSet;
 import java.util.regex.Matcher;
 import java.util.regex.Pattern;
@@ -43,6 +45,7 @@ public final class FaceTests {
         "long digest()"
     };
     private static final int ROOM_OF_A_RUN = 1_000_000;
+    private static final int MOST_DEPTH = 8;
 
     private static int wrong = 0;
 
@@ -51,6 +54,7 @@ public final class FaceTests {
         insides();
         words();
         lengths();
+        depths();
         room();
         System.out.println(wrong == 0 ? "the face is as due" : wrong + " faults of the face");
         if (wrong != 0) {
@@ -174,6 +178,41 @@ public final class FaceTests {
                 require(statement || to - from < 60, "a method of over 60 lines begins in line " + (from + 1));
             }
         }
+    }
+
+    /** How deep the calls go, by the names alone; those of the library count as one. */
+    private static void depths() throws IOException {
+        String source = withoutComments(Files.readString(SOURCE)).replaceAll("\"[^\"]*\"", "");
+        Map<String, Set<String>> calls = new TreeMap<>();
+        String head = "^( {4}| {8})(?! )[a-zA-Z\\[\\] ]+ (\\w+)\\([^()]*\\)[^(){};]*";
+        Matcher method = Pattern.compile("(?ms)" + head + "\\{(.*?)^\\1\\}").matcher(source);
+        while (method.find()) {
+            Set<String> called = calls.computeIfAbsent(method.group(2), name -> new TreeSet<>());
+            Matcher call = Pattern.compile("(\\w+)\\(").matcher(method.group(3));
+            while (call.find()) {
+                if (!Set.of("if", "for", "while", "switch").contains(call.group(1))) {
+                    called.add(call.group(1));
+                }
+            }
+        }
+        for (String line : FACE) {
+            String name = line.substring(line.indexOf(' ') + 1, line.indexOf('('));
+            require(calls.containsKey(name), "no body of " + name + " is found");
+            require(depth(name, calls, 0) <= MOST_DEPTH, name + " goes deeper than eight calls");
+        }
+    }
+
+    /** A method that calls one of its own name calls that of another class: FaceTests sees the names alone. */
+    private static int depth(String name, Map<String, Set<String>> calls, int above) {
+        int deepest = 0;
+        for (String called : calls.getOrDefault(name, Set.of())) {
+            if (called.equals(name)) {
+                deepest = Math.max(deepest, 1);
+            } else if (above < 2 * MOST_DEPTH) {
+                deepest = Math.max(deepest, depth(called, calls, above + 1));
+            }
+        }
+        return 1 + deepest;
     }
 
     /** The dearest calls make next to nothing: all calls of a run live in one room. */
