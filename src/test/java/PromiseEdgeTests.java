@@ -170,6 +170,7 @@ public final class PromiseEdgeTests extends Sentences {
             x.pass(1);
             for (int rope = 0; rope < 5; rope++) {
                 x.inspect(rope, rope, rope);
+                x.inspect(rope, rope, rope);
             }
             leaveRoom(x);
             int cut = place;
@@ -179,6 +180,7 @@ public final class PromiseEdgeTests extends Sentences {
                 int was = rope < place ? rope : rope + 1;
                 due("its quality", x.rope(rope, 0), was + 1);
                 due("its count", x.section(rope, was, 2), 12 / (was + 1));
+                due("the count ahead of it", x.section(rope, was, 3), 12 / (was + 1));
                 due("the count beside it", x.section(rope, was + 1, 2), 0);
                 due("its month", x.section(rope, was, 4), 1);
                 due("its trips", x.rope(rope, 9), 12);
@@ -215,6 +217,7 @@ public final class PromiseEdgeTests extends Sentences {
         sentence("Swaps a rope for a new one. Undoable.");
         RopeThreads x = loose(1, 1);
         x.trip(0, 7, 9);
+        x.inspect(1, 0, 23);
         x.inspect(1, 0, 23);
         x.pass(3);
         leaveRoom(x);
@@ -682,7 +685,8 @@ public final class PromiseEdgeTests extends Sentences {
 
         sentence("Throws IllegalStateException if there is none");
         refused(y, "undo() behind all", STATE, y::undo);
-        refused(new RopeThreads(), "undo() of a new object", STATE, new RopeThreads()::undo);
+        RopeThreads empty = new RopeThreads();
+        refused(empty, "undo() of a new object", STATE, empty::undo);
         y.pass(1);
         due("undo() behind a call", y.undo(), 0);
         refused(y, "undo() again", STATE, y::undo);
@@ -784,6 +788,9 @@ public final class PromiseEdgeTests extends Sentences {
         due("the greatest true sum of one", wear.rope(0, 6), 4);
         wear.inspect(0, 20, 23);
         due("counts do not matter", wear.rope(0, 6), 4);
+        wear.set(0, 3);
+        wear.trip(0, 0, 1);
+        due("the first three sections", wear.rope(0, 6), 3 * 4);
     }
 
     private static void ropeAndItsRetiring() {
@@ -1278,6 +1285,13 @@ public final class PromiseEdgeTests extends Sentences {
         due("the first floor is worn more", uneven.tripsLeft(0), 0);
         uneven.inspect(0, 0, 23);
         due("inspected", uneven.tripsLeft(0), 0);
+        for (int floor = 0; floor <= 7; floor++) {
+            RopeThreads worn = withRopes(10, 10);
+            worn.set(0, 3);
+            worn.set(1, 6);
+            worn.trip(floor, floor, 15);
+            due("only the floor " + floor + " is worn", worn.tripsLeft(0), 5);
+        }
 
         sentence(NO_SUCH_ROPE);
         dueRopes(uneven, "tripsLeft", uneven::tripsLeft);

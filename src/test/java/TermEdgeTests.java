@@ -608,6 +608,7 @@ public final class TermEdgeTests extends Sentences {
         x.hang(2);
         x.trip(7, 0, 5);
         x.inspect(2, 4, 19);
+        x.inspect(2, 6, 23);
         x.inspect(0, 0, 23);
         x.swap(1, 50);
         type(x, "0-7*2;3-3");
