@@ -620,6 +620,8 @@ public final class PromiseEdgeTests extends Sentences {
         y.trip(0, 0, 9);
         type(y, repeated("0-0*99;", 8) + "1-1");
         due("a run() of 60 characters but one", y.run(), 3 + 9 + 8 * 99 + 1);
+        type(y, "2-2");
+        due("a run() of one part behind one of many", y.run(), 3 + 9 + 8 * 99 + 2);
     }
 
     private static void runRefused() {
@@ -650,6 +652,8 @@ public final class PromiseEdgeTests extends Sentences {
         type(many, "0-0*98;1-1*2");
         refused(many, "run() to 100000 trips", STATE, many::run);
         due("no trip is made of those that would be too many", many.section(0, 0, 0), 99900);
+        type(many, "0-0*80;1-1*10;2-2*10");
+        refused(many, "run() of three parts to 100000 trips", STATE, many::run);
         type(many, "0-0*97;1-1*2");
         due("run() to 99999 trips", many.run(), 99999);
         type(many, "0-0");
